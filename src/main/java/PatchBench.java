@@ -414,14 +414,12 @@ public final class PatchBench {
         }
     }
 
-    /** The versions, with the costs that are known and the patch that was made last. */
+    /** The versions, and the patches among them that were asked for. */
     private static final class Shelf {
         private final Bytes[] versions = new Bytes[VERSIONS];
-        private final int[] prices = new int[VERSIONS * VERSIONS];
+        private final Patch[] patches = new Patch[VERSIONS * VERSIONS];
+        private final boolean[] planned = new boolean[VERSIONS * VERSIONS];
         private final Planner planner = new Planner();
-        private final Patch patch = new Patch();
-        private int patchFrom = NONE;
-        private int patchTo = NONE;
 
         Shelf() {
             for (int v = 0; v < VERSIONS; v++) {
@@ -450,30 +448,26 @@ public final class PatchBench {
         void replace(int v, Bytes source, int n) {
             versions[v].takeFirst(source, n);
             for (int other = 0; other < VERSIONS; other++) {
-                prices[v * VERSIONS + other] = 0;
-                prices[other * VERSIONS + v] = 0;
+                planned[v * VERSIONS + other] = false;
+                planned[other * VERSIONS + v] = false;
             }
-            patchFrom = NONE;
-            patchTo = NONE;
         }
 
-        /** Asked only behind has(a) and has(b); the patch is good until the next one is asked for. */
+        /** Asked only behind has(a) and has(b). A pair's patch is one object, planned anew in place. */
         Patch patchOf(int a, int b) {
-            if (patchFrom != a || patchTo != b) {
-                planner.plan(versions[a], versions[b], patch);
-                patchFrom = a;
-                patchTo = b;
-                prices[a * VERSIONS + b] = patch.price;
+            int at = a * VERSIONS + b;
+            if (patches[at] == null) {
+                patches[at] = new Patch();
             }
-            return patch;
+            if (!planned[at]) {
+                planner.plan(versions[a], versions[b], patches[at]);
+                planned[at] = true;
+            }
+            return patches[at];
         }
 
         int priceOf(int a, int b) {
-            if (!has(a) || !has(b)) {
-                return NONE;
-            }
-            int known = prices[a * VERSIONS + b];
-            return known > 0 ? known : patchOf(a, b).price;
+            return has(a) && has(b) ? patchOf(a, b).price : NONE;
         }
     }
 
