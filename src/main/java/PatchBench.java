@@ -21,6 +21,7 @@ public final class PatchBench {
     private static final int PATCH_COST = 3;
     private static final int WHOLE_COST = 3;
     private static final int MOST_ADDED = 30;
+    private static final int ABOVE_ANY_COST = 1000000;
 
     private static final int UP = 0;
     private static final int DOWN = 1;
@@ -389,7 +390,7 @@ public final class PatchBench {
 
         /** What is tried later wins if alike, so the kinds are tried from the least wanted on. */
         private void chooseStep(int i, int count) {
-            least[i] = Integer.MAX_VALUE;
+            least[i] = ABOVE_ANY_COST;
             int mostAdded = Math.min(MOST_ADDED, count - i);
             for (int n = 1; n <= mostAdded; n++) {
                 tryStep(i, ADD, n, i, 0);

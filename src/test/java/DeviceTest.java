@@ -94,6 +94,7 @@ public final class DeviceTest {
         Due.same("another number", bench.update(1, 0), -3);
         Due.same("another check", bench.update(2, 0), -3);
         Due.same("nothing is begun", bench.device(2), 0);
+        anotherNumberOfTheSameCheck();
         Due.same("update(0, 3)", bench.update(0, 3), -1);
         Due.same("update(3, 0)", bench.update(3, 0), -1);
         Due.same("update(-1, 0)", bench.update(-1, 0), -1);
@@ -117,6 +118,16 @@ public final class DeviceTest {
         Due.same("on() again", bench.on(), -2);
         Due.same("all of them and no more", bench.write(1000), 120);
         Due.same("write() behind the last", bench.write(1), -2);
+    }
+
+    private static void anotherNumberOfTheSameCheck() {
+        PatchBench bench = new PatchBench();
+        Fill.version(bench, 0, 10, 50);
+        Fill.version(bench, 1, 37, 17, 6);
+        Due.same("check(0)", bench.check(0), 1353);
+        Due.same("check(1)", bench.check(1), 1353);
+        bench.install(0);
+        Due.same("another number of the same check", bench.update(1, 0), -3);
     }
 
     /** Going up: 40 bytes come down by 20; then SHIFTs in place, all kept. */

@@ -74,6 +74,7 @@ public final class MeltTest {
         Fill.version(bench, 0, BASE);
         Fill.version(bench, 1, Fill.joined(Fill.part(BASE, 30, 30), Fill.part(BASE, 0, 30)));
         Fill.version(bench, 2, BASE);
+        meltIs(bench, 0, 0, 1, 11, new int[][] {{0, 30, 30, 0}, {0, 30, 0, 0}});
         Due.same("steps of the second patch", bench.step(1, 2, -1, 0), 2);
         meltIs(bench, 0, 1, 2, 7, new int[][] {{0, 60, 0, 0}});
         Fill.version(bench, 2, Fill.joined(Fill.part(BASE, 0, 30), Fill.shifted(Fill.part(BASE, 30, 30), 1)));

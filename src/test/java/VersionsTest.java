@@ -82,6 +82,8 @@ public final class VersionsTest {
         Due.same("cost before it is replaced", bench.cost(0, 1), 3 + 3);
         Fill.version(bench, 1, 10, 11, 10, 11, 10, 11);
         Due.same("cost behind it", bench.cost(0, 1), 3 + 7);
+        Fill.version(bench, 0, 10, 11, 10, 11, 10, 11);
+        Due.same("cost behind the other", bench.cost(0, 1), 3 + 4);
     }
 
     private static void checks() {
