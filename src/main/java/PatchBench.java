@@ -265,10 +265,13 @@ public final class PatchBench {
             }
         }
 
-        /** What stood behind the first n bytes stays in the row, as it does in a device's area. */
+        /** Nothing of what was stays: a device's area can be read behind its bytes too. */
         void takeFirst(Bytes other, int n) {
             int taken = Math.max(0, Math.min(n, Math.min(values.length, other.count)));
             System.arraycopy(other.values, 0, values, 0, taken);
+            for (int i = taken; i < values.length; i++) {
+                values[i] = 0;
+            }
             count = taken;
         }
 

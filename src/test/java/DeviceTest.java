@@ -62,8 +62,9 @@ public final class DeviceTest {
         Due.same("bytes", bench.device(0), 3);
         Due.same("check", bench.device(1), bench.check(1));
         Due.same("its last byte", bench.device(12), 6);
-        Due.same("what is behind stays", bench.device(13), BASE[3]);
-        Due.same("the end of the area", bench.device(129), 0);
+        for (int what = 13; what < 130; what++) {
+            Due.same("newly written, device(" + what + ")", bench.device(what), 0);
+        }
         Due.same("behind the area", bench.device(130), -1);
         Due.same("far behind the area", bench.device(Integer.MAX_VALUE), -1);
         Due.same("device(-1)", bench.device(-1), -1);
@@ -82,6 +83,30 @@ public final class DeviceTest {
         Due.same("write() behind it", bench.write(1), -2);
         Due.no("cut() behind it", bench.cut());
         Due.same("the next update", bench.update(0, 0), 122);
+        newlyWrittenBehindUpdates();
+    }
+
+    /** What an UPDATE leaves behind its new bytes stays until a VERSION is newly written. */
+    private static void newlyWrittenBehindUpdates() {
+        PatchBench bench = new PatchBench();
+        Fill.version(bench, 0, BASE);
+        Fill.version(bench, 1, 4, 5, 6);
+        bench.install(0);
+        bench.update(0, 1);
+        bench.write(1000);
+        Due.same("an update leaves what is behind", bench.device(13), BASE[3]);
+        Due.no("install(2)", bench.install(2));
+        Due.same("install(2) does nothing", bench.device(13), BASE[3]);
+        bench.install(1);
+        Due.same("gone, newly written", bench.device(13), 0);
+        Due.same("the last old byte is gone too", bench.device(69), 0);
+        bench.update(1, 0);
+        bench.write(1000);
+        Due.same("the old bytes are back", bench.device(69), BASE[59]);
+        bench.update(0, 1);
+        bench.write(30);
+        bench.install(1);
+        Due.same("gone in the midst of an update", bench.device(69), 0);
     }
 
     private static void refusals() {

@@ -239,7 +239,9 @@ final class Model {
         if (!is(v)) {
             return false;
         }
-        System.arraycopy(versions[v], 0, area, 0, versions[v].length);
+        for (int i = 0; i < 120; i++) {
+            area[i] = i < versions[v].length ? versions[v][i] : 0;
+        }
         holds = versions[v].length;
         forget();
         return true;
