@@ -432,8 +432,9 @@ public final class DeviceEdgesTest extends Edges {
             Due.same("on() behind WRITE " + made, bench.on(), all - begin);
             deviceIs("on behind WRITE " + made, bench, old.length, check, 1, made, marks == 0 ? 0 : kept, marks - 1);
             Due.same("the rest", bench.write(1000), all - begin);
-            areaIs("done, cut behind WRITE " + made, bench, fresh);
-            deviceIs("done, cut behind WRITE " + made, bench, fresh.length, bench.check(1), 0, made + all - begin, 0, -1, -1);
+            String done = "done, cut behind WRITE " + made;
+            areaIs(done, bench, fresh);
+            deviceIs(done, bench, fresh.length, bench.check(1), 0, made + all - begin, 0, -1, -1);
         }
     }
 
